@@ -91,6 +91,9 @@ public final class ClaimsTest {
         }
         DUE.index("promise 13: no claim 40", () -> x.cite(40, 39));
         DUE.is("promise 14: the last but one, cited by the last", 2, x.withdraw(38));
+        DUE.is("promise 15: of forty", 0, x.audit());
+        x.drop(0, 0);
+        DUE.is("promise 15: those that stood of forty", 37, x.audit());
     }
 
     private static void claimAge() {
@@ -365,6 +368,9 @@ public final class ClaimsTest {
                 DUE.is("promise 25: " + what + " of " + claim, due[claim][what], x.ofClaim(claim, what));
             }
         }
+        DUE.is("promise 26: a tone of the second star", true, x.isSound(0));
+        DUE.is("promise 26: a planet of the second star", true, x.isSound(3));
+        DUE.is("promise 15: all of the second star", 0, x.audit());
         DUE.index("promise 25: claim 4, before what", () -> x.ofClaim(4, 6));
         DUE.index("promise 25: claim -1", () -> x.ofClaim(-1, 0));
         DUE.argument("promise 25: what 6", () -> x.ofClaim(0, 6));
@@ -417,6 +423,7 @@ public final class ClaimsTest {
         DUE.is("promise 26: order 12 and degree 2, 80000 times 29 by 2 is 1160000", false, sound(29, 5, 40, 0));
         DUE.is("promise 26: order 12 and degree 2 at 1090211", false, sound(27, 4, 30, 0));
         DUE.is("promise 26: degree 3 is left out at 1127805", true, sound(28, 4, 30, 0));
-        DUE.is("promise 26: spin is nothing to part 0", true, sound(2, 3, 12, 9));
+        DUE.is("promise 26: spin is nothing to part 0, below", true, sound(2, 3, 12, 9));
+        DUE.is("promise 26: spin is nothing to part 0, above", true, sound(15, 3, 12, 9));
     }
 }

@@ -148,7 +148,10 @@ public final class LightTest {
         DUE.is("promise 8: a sixth", 6, x.takeOut(0, 1));
         DUE.state("promise 8: a seventh", () -> x.takeOut(0, 1));
         DUE.argument("promise 8: a seventh of the line 0", () -> x.takeOut(0, 0));
-        DUE.is("promise 8: without frames", 1, one().takeOut(0, 5));
+        AsteroTone dark = one();
+        DUE.is("promise 8: without frames", 1, dark.takeOut(0, 5));
+        DUE.is("promise 20: nothing to take out of, value", 0, dark.value(0, 0, 5));
+        DUE.is("promise 21: nothing to take out of, power", 0, dark.power(0, 2, 5));
         AsteroTone far = one();
         far.frame(0, 0, 200, 77);
         for (int i = 1; i <= 5; i++) {
@@ -219,6 +222,12 @@ public final class LightTest {
         }
         DUE.is("promise 19: all times", 256, full.frames(0));
         DUE.is("promise 19: the greatest power", 256L * 9999 * 256 * 9999, full.power(0, 0, 0));
+        full.takeOut(0, 31);
+        full.frame(0, 0, 128, 0);
+        for (int filter = 0; filter < 3; filter++) {
+            DUE.is("promise 20: the middle one of all times", true, full.value(0, filter, 128) < -9000 || filter == 0);
+        }
+        DUE.is("promise 22: the greatest window", 65536, full.window(0, 0));
     }
 
     private static void valueOfFilters() {
@@ -237,6 +246,15 @@ public final class LightTest {
         DUE.index("promise 20: star -1", () -> x.value(-1, 0, 0));
         DUE.argument("promise 20: time 256", () -> x.value(0, 0, 256));
         DUE.argument("promise 20: time -1", () -> x.value(0, 0, -1));
+        AsteroTone single = one();
+        single.frame(0, 0, 9, 123);
+        DUE.is("promise 20: one frame less its mean", 0, single.value(0, 1, 9));
+        DUE.is("promise 20: the only frame", 123, single.value(0, 0, 9));
+        single.mask(0, true);
+        DUE.is("promise 20: the only frame, left out", 0, single.value(0, 0, 9));
+        single.mask(0, false);
+        single.drop(0, 9);
+        DUE.is("promise 20: the only frame, dropped", 0, single.value(0, 0, 9));
         for (int filter = 0; filter < 3; filter++) {
             DUE.is("promise 20: no frames at all", 0, one().value(0, filter, 0));
         }
@@ -246,6 +264,9 @@ public final class LightTest {
         AsteroTone x = one();
         x.frame(0, 0, 10, 100);
         DUE.is("promise 20: one frame less its count", 0, x.value(0, 2, 10));
+        x.frame(0, 1, 11, 100);
+        x.frame(0, 1, 11, 90);
+        DUE.is("promise 20: the last one, 1 behind the first", 0, x.value(0, 2, 11));
         x.frame(0, 0, 13, 98);
         x.frame(0, 1, 11, 100);
         x.frame(0, 0, 12, 500);
@@ -356,6 +377,17 @@ public final class LightTest {
         risen.frame(0, 0, 0, 9000);
         risen.frame(0, 0, 31, 9000);
         DUE.is("promise 23: of the filter raw", true, risen.isPeak(0, 0, 2));
+        AsteroTone equal = one();
+        equal.frame(0, 0, 0, 2);
+        equal.frame(0, 0, 1, 2);
+        equal.threshold(1);
+        DUE.is("promise 23: as much as the one above", false, equal.isPeak(0, 0, 6));
+        DUE.is("promise 23: as much as the one below", false, equal.isPeak(0, 0, 10));
+        DUE.is("promise 23: 8 between 5 and 2", true, equal.isPeak(0, 0, 16));
+        AsteroTone rising = one();
+        rising.frame(0, 0, 0, 9000);
+        rising.frame(0, 0, 1, 1000);
+        DUE.is("promise 23: more than the one below, less than the one above", false, rising.isPeak(0, 1, 5));
         DUE.index("promise 23: filter 3", () -> odd.isPeak(0, 3, 1) ? 1 : 0);
         DUE.index("promise 23: filter -1, of a line that is none", () -> odd.isPeak(0, -1, 99) ? 1 : 0);
         DUE.index("promise 23: star 1", () -> odd.isPeak(1, 0, 1) ? 1 : 0);

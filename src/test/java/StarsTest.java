@@ -114,6 +114,9 @@ public final class StarsTest {
         DUE.is("promise 16: slower twice", 49 + 40, z.ofStar(0, 3));
         DUE.is("promise 16: spin of all", 9, z.ofStar(0, 4));
         DUE.is("promise 16: four crossed", 10 + 20 + 16 + 50, z.ofStar(0, 1));
+        AsteroTone thin = ringing(1, 90, 3);
+        DUE.is("promise 16: spin of one unit", 3, thin.ofStar(0, 4));
+        DUE.is("promise 16: 10000000 by 11", 909090, thin.ofStar(0, 2));
         AsteroTone fast = ringing(1, 99, 0);
         DUE.is("promise 16: the largest spacing", 1000000, fast.ofStar(0, 2));
     }
