@@ -28,6 +28,14 @@ final class Due {
         is(what, true, so);
     }
 
+    void same(String what, String want, String got) {
+        if (want.equals(got)) {
+            right++;
+        } else {
+            tell(what + " answered " + got + ", due is " + want);
+        }
+    }
+
     void index(String what, Call call) {
         thrown(what, IndexOutOfBoundsException.class, call);
     }
@@ -40,7 +48,7 @@ final class Due {
         thrown(what, IllegalStateException.class, call);
     }
 
-    private void thrown(String what, Class<?> want, Call call) {
+    void thrown(String what, Class<?> want, Call call) {
         try {
             tell(what + " answered " + call.make() + ", due is " + want.getName());
         } catch (RuntimeException got) {
