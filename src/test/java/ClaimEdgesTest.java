@@ -98,14 +98,13 @@ public final class ClaimEdgesTest {
         DUE.state("promise 10: masked", () -> x.claimTone(0, MEAN, 1));
     }
 
-    /** Less the mean each odd line is a peak; less the drift -500, -1500 and -500 are left, peaks at 4, 8, 12. */
+    /** Less the mean each odd line is a peak; less the drift, 0, -500, -2000 and 0, each fourth one. */
     private static void byAFilter() {
         AsteroTone x = Scene.one();
         Scene.light(x, 0, 2000, 1500, 0, 2000);
         for (int wrong : new int[] {Integer.MIN_VALUE, -1, 3, Integer.MAX_VALUE}) {
             DUE.index("promise 10: filter " + wrong, () -> x.claimTone(0, wrong, 1));
         }
-        // Less the drift 0, -500, -2000 and 0: line 1 has 2000 and -500, line 2 -1500, line 4 -2500.
         DUE.is("promise 21: line 4", 6250000, x.power(0, DRIFT, 4));
         DUE.is("promise 10: line 4 less the drift", 0, x.claimTone(0, DRIFT, 4));
         DUE.state("promise 10: line 1 less the drift", () -> x.claimTone(0, DRIFT, 1));
@@ -164,24 +163,28 @@ public final class ClaimEdgesTest {
         DUE.index("promise 11: withdrawn, and none", () -> x.claimAge(0, 5));
     }
 
-    /** An age of lines so far apart, of stars of these spacings, the light being that of the first one. */
+    /** The age of lines so far apart; a star is told as its age and the thickness and speed of its one shell. */
     private static int age(int apart, int[]... stars) {
         AsteroTone x = new AsteroTone();
         for (int star = 0; star < stars.length; star++) {
             Scene.star(x, stars[star][0], stars[star][1], stars[star][2], 0);
         }
-        int first = apart == 29 ? 1 : 2;
-        Scene.light(x, 0, 2000, first == 1 ? 1000 : 0, first == 1 ? 0 : 2000, first == 1 ? 1000 : 0);
-        x.claimTone(0, MEAN, first);
-        Scene.light(x, 0, 2000, first == 2 && apart % 2 == 1 ? 1000 : 0, first == 2 && apart % 2 == 1 ? 0 : 2000,
-                first == 2 && apart % 2 == 1 ? 1000 : 0);
-        x.claimTone(0, MEAN, first + apart);
+        int from = apart == 29 ? 1 : 2;
+        claimPeak(x, from);
+        claimPeak(x, from + apart);
         int age = x.ofClaim(x.claimAge(1, 0), 3);
         DUE.is("promise 11: the same the other way", age, x.ofClaim(x.claimAge(0, 1), 3));
         return age;
     }
 
-    /** Large spacings: 40000 of 1 by 4, 80000 of 1 by 8, 1000000 of 1 by 99, 101 of 99 by 1, 39840 of 25 by 99. */
+    /** Tells the light anew, so that the line is a peak: an odd one, or one of 2, 6, 10 to 30. */
+    private static void claimPeak(AsteroTone x, int line) {
+        boolean even = line % 2 == 0;
+        Scene.light(x, 0, 2000, even ? 0 : 1000, even ? 2000 : 0, even ? 0 : 1000);
+        x.claimTone(0, MEAN, line);
+    }
+
+    /** Large spacings: 40000 of 1 by 4, 80000 of 1 by 8, 1000000 of 1 by 99, 101 of 99 by 1. */
     private static void ageOfTheLeastAway() {
         int[] slow = {11, 99, 1};
         int[] one = {22, 1, 4};
@@ -192,7 +195,8 @@ public final class ClaimEdgesTest {
         DUE.is("promise 11: 1 line apart, told last", 22, age(1, most, two, slow, one));
         DUE.is("promise 11: 1160000 is the nearest to 1000000", 44, age(29, slow, one, two, most));
         DUE.is("promise 11: 160000 is the nearest to 80000", 33, age(4, slow, one, two, most));
-        DUE.is("promise 11: 560000 is 440000 and 480000 away", 44, age(14 + 1, slow, two, most, one));
+        DUE.is("promise 11: 520000 is 480000 below and 440000 above", 33, age(13, slow, two, most, one));
+        DUE.is("promise 11: 600000 is 400000 below and 520000 above", 44, age(15, slow, two, most, one));
         DUE.is("promise 11: the age 0", 0, age(1, new int[] {0, 1, 4}, slow));
         DUE.is("promise 11: the age 99", 99, age(1, slow, new int[] {99, 1, 4}));
         DUE.is("promise 11: of six stars the last one", 22, age(1, slow, slow, most, two, two, one));
@@ -251,8 +255,8 @@ public final class ClaimEdgesTest {
         DUE.is("promise 13: the lowest one", 1, x.cite(2, 0));
         DUE.is("promise 13: both", 2, x.cite(2, 1));
         DUE.state("promise 13: it cites that", () -> x.cite(2, 1));
-        DUE.is("promise 13: what a cited one cites is not cited by that", 0, x.claimAge(1, 2) - 3);
-        DUE.is("promise 13: so it can be", 3, x.cite(3, 0));
+        DUE.is("promise 11: an age of 1 and 2, which cite 0", 3, x.claimAge(1, 2));
+        DUE.is("promise 13: the age cites 0 only now", 3, x.cite(3, 0));
     }
 
     private static void citesAsManyAsThereAre() {
@@ -379,7 +383,7 @@ public final class ClaimEdgesTest {
         DUE.is("promise 15: all are masked", 1, x.audit());
     }
 
-    /** Line 2 has twice 900 by 4, line 4 nothing: what line 1 keeps is found with line 2 taken out alone. */
+    /** The power that is kept is found with line 2 taken out, and with nothing else. */
     private static void auditsWithTheFirstLines() {
         AsteroTone x = Scene.seen(0, 3000, 9, 40, 20, 900, 31, 10, 47, 1500);
         x.threshold(1);
@@ -447,7 +451,9 @@ public final class ClaimEdgesTest {
         DUE.is("promise 15: order 12, degree 3 would be 1200000", true, keeps(30, 1, 8, 0));
         DUE.is("promise 15: order 12, degree 1, just 560000", false, keeps(14, 1, 4, 0));
         DUE.is("promise 15: order 13, degree 1 would be 600000", true, keeps(15, 1, 4, 0));
-        DUE.is("promise 15: part 0 alone, whatever the spin", true, keeps(15, 1, 4, 9));
+        DUE.is("promise 15: 580000 by the part 0, by the part 1 it would be 580090", true, keeps(15, 1, 4, 9));
+        DUE.is("promise 15: 300000 by the part 0, by the part -1 it would be 299910", true, keeps(7, 1, 10, 9));
+        DUE.is("promise 15: 700000 by the part 0, by the part -2 it would be 699820", true, keeps(17, 1, 20, 9));
         DUE.is("promise 15: far above all tones", true, keeps(30, 99, 1, 0));
         DUE.is("promise 15: tones far below 20000 are none", true, keeps(1, 99, 1, 0));
         DUE.is("promise 15: far below all tones", true, keeps(1, 1, 99, 0));

@@ -136,7 +136,8 @@ public final class LightEdgesTest {
                 DUE.is("promise 20: time " + time, y.value(0, filter, time), x.value(0, filter, time));
             }
             DUE.is("promise 20: left out", 0, x.value(0, filter, 255));
-            DUE.is("promise 24: line 1 through 16", y.isSeenThrough(0, filter, 4, 16), x.isSeenThrough(0, filter, 4, 16));
+            boolean due = y.isSeenThrough(0, filter, 4, 16);
+            DUE.is("promise 24: line 4 through 16", due, x.isSeenThrough(0, filter, 4, 16));
         }
         DUE.is("promise 22: of four frames", 16, x.window(0, 4));
         x.mask(3, false);
@@ -218,6 +219,8 @@ public final class LightEdgesTest {
         DUE.is("promise 20: -2 by 2 is -1", 51, Scene.seen(0, 10, 1, 60, 2, 8).value(0, DRIFT, 1));
         DUE.is("promise 20: 3 by 2 is 1", 49, Scene.seen(0, 10, 1, 60, 2, 13).value(0, DRIFT, 1));
         DUE.is("promise 20: -3 by 2 is -2", 52, Scene.seen(0, 10, 1, 60, 2, 7).value(0, DRIFT, 1));
+        DUE.is("promise 20: 50 by 1", 0, Scene.seen(254, 10, 255, 60).value(0, DRIFT, 255));
+        DUE.is("promise 20: -50 by 1", 0, Scene.seen(0, 60, 1, 10).value(0, DRIFT, 1));
         DUE.is("promise 20: -1 by 255 is -1", 1, Scene.seen(0, 1, 1, 1, 255, 0).value(0, DRIFT, 1));
         DUE.is("promise 20: 9999 times 254 by 255 is 9959.7", -9959, Scene.seen(0, 0, 254, 0, 255, 9999)
                 .value(0, DRIFT, 254));
@@ -293,11 +296,13 @@ public final class LightEdgesTest {
 
     /** "the sine that for the number less 16", which is below 0 for 0 to 15. */
     private static void sineBelow0() {
-        DUE.is("promise 21: 0 less 16 is 48", 3000 * 3000 + 1000 * 1000, Scene.seen(0, 1000, 16, 3000).power(0, RAW, 1));
+        DUE.is("promise 21: 0 less 16 is 48", 3000 * 3000 + 1000 * 1000,
+                Scene.seen(0, 1000, 16, 3000).power(0, RAW, 1));
         DUE.is("promise 21: 1 less 16 is 49", 995 * 995 + 3098 * 3098, Scene.seen(1, 1000, 16, 3000).power(0, RAW, 1));
         DUE.is("promise 21: 15 less 16 is 63", 98 * 98 + 3995 * 3995, Scene.seen(15, 1000, 16, 3000).power(0, RAW, 1));
         DUE.is("promise 21: 16 less 16", 4000 * 4000, Scene.seen(80, 1000, 16, 3000).power(0, RAW, 1));
-        DUE.is("promise 21: line 0 has the sine of 0 alone", 4000 * 4000, Scene.seen(1, 1000, 16, 3000).power(0, RAW, 0));
+        DUE.is("promise 21: line 0 has the sine of 0 alone", 4000 * 4000,
+                Scene.seen(1, 1000, 16, 3000).power(0, RAW, 0));
     }
 
     /** "each divided by 1000 ahead", cut toward 0: -1990 is -1 then, and -985 is 0. */

@@ -277,6 +277,10 @@ public final class LinesOutTest {
         DUE.is("promise 24: 4 times 1 is 4, further on", true, two.isSeenThrough(0, RAW, 31, 30));
         DUE.is("promise 22: 0 of two frames", 0, two.window(0, 31));
         DUE.is("promise 24: 4 times 0", false, two.isSeenThrough(0, RAW, 31, 0));
+        DUE.is("promise 22: 1 and 1 of two frames, at the line 16", 2, two.window(0, 16));
+        DUE.is("promise 22: 0 of two frames, from the line 22 on", 0, two.window(0, 22));
+        DUE.is("promise 24: 20 and 4 are 16 apart, and 24 together", true, two.isSeenThrough(0, RAW, 20, 4));
+        DUE.is("promise 24: 4 and 20, as far apart", false, two.isSeenThrough(0, RAW, 4, 20));
         AsteroTone three = Scene.seen(0, 3000, 1, 3000, 2, 3000);
         DUE.is("promise 22: 2 of three frames", 2, three.window(0, 8));
         DUE.is("promise 24: 4 times 2 is 1 less than 9", false, three.isSeenThrough(0, RAW, 8, 0));
@@ -312,7 +316,7 @@ public final class LinesOutTest {
     /** The powers are those of what is left, the window is as it was. */
     private static void throughWithLinesTakenOut() {
         AsteroTone x = square(2000, 1000, 0, 1000);
-        DUE.is("promise 24: 16000000 at line 4, 4000000 at line 1, nothing 3 away", false, x.isSeenThrough(0, RAW, 1, 4));
+        DUE.is("promise 24: line 4 is greater, but nothing 3 away", false, x.isSeenThrough(0, RAW, 1, 4));
         DUE.is("promise 24: line 0 and 4 are the same", false, x.isSeenThrough(0, RAW, 4, 0));
         AsteroTone two = Scene.seen(0, 5000, 1, 4000);
         DUE.is("promise 24: line 0 is greater", true, two.isSeenThrough(0, RAW, 1, 0));
