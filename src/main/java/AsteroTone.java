@@ -415,16 +415,14 @@ public final class AsteroTone {
     }
 
     private int ageOfNearest(int spacing) {
-        int age = NONE;
-        int nearest = Integer.MAX_VALUE;
+        Star nearest = null;
         for (int number = 0; number < starCount; number++) {
             Star star = stars[number];
-            if (star != null && Math.abs(star.large - spacing) < nearest) {
-                nearest = Math.abs(star.large - spacing);
-                age = star.age;
+            if (star != null && (nearest == null || star.awayFrom(spacing) < nearest.awayFrom(spacing))) {
+                nearest = star;
             }
         }
-        return age;
+        return nearest == null ? NONE : nearest.age;
     }
 
     /** One way upward is enough, as a claim cites lower numbers alone. */
@@ -530,6 +528,10 @@ public final class AsteroTone {
                 sum += thicks[i] * spins[i];
             }
             return weight > 0 ? sum / weight : 0;
+        }
+
+        private int awayFrom(int spacing) {
+            return Math.abs(large - spacing);
         }
 
         private int ring(int order, int degree, int part) {

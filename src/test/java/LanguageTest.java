@@ -9,6 +9,8 @@ import java.util.ArrayList;
 import java.util.Arrays;
 import java.util.List;
 import java.util.TreeSet;
+import java.util.regex.Matcher;
+import java.util.regex.Pattern;
 import java.util.stream.Collectors;
 
 /** The face as the document has it, and those rules of LANGUAGE.md that a look at the source can tell. */
@@ -120,7 +122,19 @@ public final class LanguageTest {
         for (String sign : new String[] {"->", "::", "Exact(", "<>", "\"\" +", "+ \"\""}) {
             DUE.holds("no " + sign, !bare.contains(sign));
         }
+        listedFunctions(bare);
         shortMethods(bare);
+    }
+
+    /** Of the library's static members rule 4 lists functions alone, and no constants such as MAX_VALUE. */
+    private static void listedFunctions(String bare) {
+        Matcher used = Pattern.compile("\\b(Integer|Long|Math|Arrays|String|List|Boolean|Character)\\.(\\w+\\(?)")
+                .matcher(bare);
+        while (used.find()) {
+            String listed = used.group(1).equals("Arrays") ? "copyOf\\(|copyOfRange\\(|fill\\("
+                    : "compare\\(|max\\(|min\\(|abs\\(|bitCount\\(|floorDiv\\(|floorMod\\(";
+            DUE.holds(used.group() + " is listed", used.group(2).matches(listed));
+        }
     }
 
     private static void shortMethods(String bare) {
